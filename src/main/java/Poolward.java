@@ -1256,7 +1256,7 @@ public final class Poolward {
             long reached = 0;
             for (int sum = 0; sum <= MOST_SUM; sum++) {
                 reached += weights[sum] * bottom;
-                if (weights[sum] > 0 && reached >= wanted) {
+                if (reached >= wanted) {
                     return sum;
                 }
             }

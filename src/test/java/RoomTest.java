@@ -1,0 +1,45 @@
+import java.lang.management.ManagementFactory;
+
+/**
+ * All calls of a run share one room, of some 600,000 objects and 7.3 million elements: so a full
+ * run of the dearest calls may make little more than its texts.
+ */
+public final class RoomTest {
+    private static final int CALLS = 512;
+    private static final long BYTES = 4_000_000;
+
+    private RoomTest() {
+    }
+
+    public static void main(String[] args) {
+        Check check = new Check();
+        for (int kind = 0; kind < 4; kind++) {
+            long bytes = runOf(kind, new long[1]);
+            check.part("kind " + kind + ": " + bytes + " bytes");
+            check.due(true, bytes < BYTES);
+        }
+        check.finish();
+    }
+
+    private static long runOf(int kind, long[] kept) {
+        com.sun.management.ThreadMXBean threads =
+                (com.sun.management.ThreadMXBean) ManagementFactory.getThreadMXBean();
+        long before = threads.getThreadAllocatedBytes(Thread.currentThread().getId());
+        Poolward x = new Poolward();
+        x.chances(0, 1, 29, 29, 59);
+        x.chances(1, 1, 29, 30, 60);
+        x.chances(2, 1, 29, 23, 53);
+        for (int i = 0; i < 5; i++) {
+            x.person(i % 3, 1 + i, 5 + i, 12 - i);
+        }
+        for (int i = 8; i < CALLS; i++) {
+            switch (kind) {
+                case 0: kept[0] += x.digest(); break;
+                case 1: kept[0] += x.law(31, 0).length(); break;
+                case 2: kept[0] += x.isSound() ? 1 : 0; break;
+                default: x.interest(i % 51); kept[0] += x.putBy(0, 0, false).length(); break;
+            }
+        }
+        return threads.getThreadAllocatedBytes(Thread.currentThread().getId()) - before;
+    }
+}
