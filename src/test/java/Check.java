@@ -58,6 +58,10 @@ final class Check {
         return wrong;
     }
 
+    int asked() {
+        return asked;
+    }
+
     void finish() {
         System.out.println(asked + " asked, " + wrong + " wrong");
         if (wrong > 0) {

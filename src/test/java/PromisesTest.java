@@ -491,7 +491,6 @@ public final class PromisesTest {
     private static void undoing() {
         undo();
         undoOfRefused();
-        undoOfEach();
         knock();
     }
 
@@ -539,85 +538,6 @@ public final class PromisesTest {
         check.due(1, x.house(0));
         check.due(1, x.house(9));
         check.throwsIndex(() -> x.ofPerson(1, 0));
-    }
-
-    /** Each change leaves a house that answers all as ahead of it, once it is undone. */
-    private static void undoOfEach() {
-        Poolward x = furnished();
-        x.interest(0);
-        x.interest(0);
-        x.undo();
-        x.undo();
-        for (int change = 0; change < 18; change++) {
-            String all = tellAll(x);
-            change(x, change);
-            check.part("promise 20, change " + change);
-            check.due(false, all.equals(tellAll(x)));
-            check.due(7, x.house(8));
-            check.due(6, x.undo());
-            check.due(all, tellAll(x));
-        }
-    }
-
-    private static Poolward furnished() {
-        Poolward x = pair();
-        x.person(2, 3, 1, 9);
-        x.chances(2, 2, 3, 5, 10);
-        x.bound(0, 2);
-        x.layer(4, 2);
-        x.load(1, 3);
-        x.tail(1, 5);
-        x.till(9, 5);
-        x.harm(1, 4, 40, 2);
-        x.policy(0, 3, 50, 20, 10);
-        x.table(0, 1, 10, 5, 20);
-        x.claim(0, 10, 20, 30);
-        x.bears(1, 40);
-        x.contract(1, 2, 3);
-        return x;
-    }
-
-    private static void change(Poolward x, int change) {
-        switch (change) {
-            case 0: x.chances(1, 1, 2, 3, 6); break;
-            case 1: x.person(1, 2, 3, 4); break;
-            case 2: x.loss(1, 1, 11); break;
-            case 3: x.bound(2, 5); break;
-            case 4: x.layer(1, 2); break;
-            case 5: x.unlayer(0); break;
-            case 6: x.load(2, 3); break;
-            case 7: x.tail(1, 2); break;
-            case 8: x.till(10, 6); break;
-            case 9: x.year(2, 1, 1); break;
-            case 10: x.table(0, 0, 30, 20, 10); break;
-            case 11: x.policy(0, 2, 51, 21, 11); break;
-            case 12: x.interest(14); break;
-            case 13: x.rate(2, 130); break;
-            case 14: x.harm(1, 3, 41, 1); break;
-            case 15: x.claim(1, 20, 30, 40); break;
-            case 16: x.bears(2, 41); break;
-            default: x.contract(1, 3, 4); break;
-        }
-    }
-
-    private static String tellAll(Poolward x) {
-        StringBuilder all = new StringBuilder();
-        for (int what = 0; what < 8; what++) {
-            all.append(x.house(what)).append(' ');
-        }
-        int set = (1 << x.house(0)) - 1;
-        for (int kind = 0; kind < 5; kind++) {
-            all.append(x.law(set, kind)).append('|');
-        }
-        for (int rule = 0; rule < 4; rule++) {
-            all.append(x.price(set, rule)).append('|');
-        }
-        for (int person = 0; person < x.house(0); person++) {
-            all.append(x.ofPerson(person, 5)).append(x.ofPerson(person, 6)).append('|');
-        }
-        all.append(x.premium(0)).append(x.putBy(0, 1, false)).append(x.putBy(0, 1, true));
-        all.append(x.meanRate()).append(x.hurdle(2, 4)).append(x.queue(99)).append(x.owes());
-        return all.append(x.pool(2, 1)).toString();
     }
 
     private static void knock() {
@@ -1339,7 +1259,7 @@ public final class PromisesTest {
         check.part("promises 55 and 56");
         check.due(true, new Poolward().isSound());
         check.due(new Model().digest(), new Poolward().digest());
-        Poolward x = furnished();
+        Poolward x = Houses.furnished();
         check.due(true, x.isSound());
         check.due(true, bound3(new int[] {0, 4}, new int[] {0, 12}, new int[] {9, 0}).isSound());
         long before = x.digest();

@@ -13,7 +13,7 @@ public final class RoomTest {
 
     public static void main(String[] args) {
         Check check = new Check();
-        for (int kind = 0; kind < 4; kind++) {
+        for (int kind = 0; kind < 6; kind++) {
             long bytes = runOf(kind, new long[1]);
             check.part("kind " + kind + ": " + bytes + " bytes");
             check.due(true, bytes < BYTES);
@@ -33,13 +33,20 @@ public final class RoomTest {
             x.person(i % 3, 1 + i, 5 + i, 12 - i);
         }
         for (int i = 8; i < CALLS; i++) {
-            switch (kind) {
-                case 0: kept[0] += x.digest(); break;
-                case 1: kept[0] += x.law(31, 0).length(); break;
-                case 2: kept[0] += x.isSound() ? 1 : 0; break;
-                default: x.interest(i % 51); kept[0] += x.putBy(0, 0, false).length(); break;
-            }
+            kept[0] += call(x, kind, i);
         }
         return threads.getThreadAllocatedBytes(Thread.currentThread().getId()) - before;
+    }
+
+    private static long call(Poolward x, int kind, int i) {
+        boolean isChange = i % 2 == 0;
+        switch (kind) {
+            case 0: return x.digest();
+            case 1: return x.law(31, 0).length();
+            case 2: return x.isSound() ? 1 : 0;
+            case 3: return isChange ? x.interest(i % 51) : x.putBy(0, 0, false).length();
+            case 4: return isChange ? x.loss(i % 5, 1, i % 13) : x.least(i % 12, 3, 1, 99);
+            default: return isChange ? x.year(i % 3, 1, 2) : x.undo();
+        }
     }
 }
