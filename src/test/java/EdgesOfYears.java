@@ -449,6 +449,17 @@ final class EdgesOfYears {
         b.due("40/3", y.pool(2, 1));
         b.due("20/3", y.pool(3, 1));
         b.due("10/3", y.pool(3, 2));
+        Poolward two = new Poolward();
+        two.bears(0, 3);
+        two.bears(3, 4);
+        two.contract(0, 2, 5);
+        two.contract(2, 0, 5);
+        two.contract(1, 3, 10);
+        two.contract(3, 1, 8);
+        b.due("4", two.pool(0, 1));
+        b.due("1", two.pool(2, 2));
+        b.due("16", two.pool(1, 1));
+        b.due("4", two.pool(3, 2));
         b.sentence("section 7", "ALL and HOLDS are not determined (for all POOLS),"
                 + " if the equations for ALL have not just one solution");
         Poolward z = new Poolward();
