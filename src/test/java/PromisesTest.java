@@ -1218,6 +1218,7 @@ public final class PromisesTest {
         ofPerson();
         house();
         isSoundAndDigest();
+        askedTwice();
         largestNumbers();
     }
 
@@ -1266,6 +1267,17 @@ public final class PromisesTest {
         check.due(before, x.digest());
         x.knock();
         check.due(false, before == x.digest());
+    }
+
+    /** To ask changes nothing: what is asked again is answered as before. */
+    private static void askedTwice() {
+        check.part("asked twice");
+        Poolward x = Houses.furnished();
+        x.harm(97, 98, 40, 2);
+        String cost = x.cost(2, 6);
+        String told = Telling.withCounts(x);
+        check.due(told, Telling.withCounts(x));
+        check.due(cost, x.cost(2, 6));
     }
 
     /** The widest bottoms that can be told, where numbers grow most. */
